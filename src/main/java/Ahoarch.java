@@ -551,12 +551,15 @@ public final class Ahoarch {
             return letterOf(lastsBefore(place + 1));
         }
 
+        // Neither asks whether so many letters are there: where one is missing the number
+        // has a 0, which no letter of a word is.
+
         boolean holdsBefore(int end, Word word) {
-            return end >= word.size && tail(lastsBefore(end), word.size) == word.code;
+            return tail(lastsBefore(end), word.size) == word.code;
         }
 
         boolean holdsAt(int place, Word word) {
-            return holdsBefore(place + word.size, word);
+            return tail(lastsBefore(place + word.size), word.size) == word.code;
         }
 
         int count(Word word) {
