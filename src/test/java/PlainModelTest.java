@@ -10,33 +10,23 @@ import java.util.function.Supplier;
  * Long runs of calls, each answer against a model that says the document's words with texts alone.
  * The runs come from a generator of fixed numbers, so they are the same each time.
  */
-public final class PlainModelTest {
+public final class PlainModelTest extends Testing {
     private static final int RUNS = 600;
     private static final int CALLS = 512;
+    private static final int WRONG_ENOUGH = 20;
 
-    private static int wrong = 0;
     private static long seed = 1;
 
     public static void main(String[] args) {
-        for (int run = 0; run < RUNS && wrong < 20; run++) {
+        for (int run = 0; run < RUNS && wrongAnswers() < WRONG_ENOUGH; run++) {
             new Run(run).go();
         }
-        System.out.println(wrong == 0 ? "PlainModelTest: all answers are as due"
-            : "PlainModelTest: " + wrong + " answers are not as due");
-        System.exit(wrong == 0 ? 0 : 1);
+        finish("PlainModelTest");
     }
 
     private static int next(int bound) {
         seed = seed * 6364136223846793005L + 1442695040888963407L;
         return (int) ((seed >>> 33) % bound);
-    }
-
-    private static String answer(Supplier<?> call) {
-        try {
-            return String.valueOf(call.get());
-        } catch (RuntimeException thrown) {
-            return "throws." + thrown.getClass().getSimpleName();
-        }
     }
 
     private static final class Run {
@@ -46,6 +36,7 @@ public final class PlainModelTest {
         private final Ahoarch x = new Ahoarch();
         private final Model m = new Model();
         private final StringBuilder calls = new StringBuilder();
+        private int called = 0;
 
         Run(int number) {
             this.number = number;
@@ -54,7 +45,7 @@ public final class PlainModelTest {
         }
 
         void go() {
-            for (int call = 0; call < CALLS && wrong < 20; call++) {
+            while (called < CALLS && wrongAnswers() < WRONG_ENOUGH) {
                 if (next(3) == 0) {
                     ask();
                 } else {
@@ -65,7 +56,7 @@ public final class PlainModelTest {
 
         private char letter() {
             if (next(60) == 0) {
-                return "`{AZ 0\u00e9\uffff".charAt(next(8));
+                return WRONG_LETTERS.charAt(next(WRONG_LETTERS.length()));
             }
             return (char) ('a' + next(alphabet));
         }
@@ -141,21 +132,21 @@ public final class PlainModelTest {
 
         /** Letters in a row, since single ones at random places seldom show a wrong joint. */
         private void wholeText(int rule) {
-            for (int index = 0; index <= m.stream.length() && index < 12; index++) {
+            for (int index = 0; index <= m.stream.length() && index < 12 && called < CALLS; index++) {
                 int i = index;
                 due("replaced(" + rule + ", " + i + ")", () -> x.replaced(rule, i), () -> m.letter(m.replaced(rule), i));
             }
         }
 
         private void due(String call, Supplier<?> got, Supplier<?> want) {
+            called++;
             String gotten = answer(got);
             String wanted = answer(want);
             calls.append(call).append(' ');
             if (!gotten.equals(wanted)) {
-                wrong++;
-                System.out.println("run " + number + ": " + call + " answered " + gotten + ", due is " + wanted
-                    + ", after " + calls);
+                about("run " + number + ": " + calls);
             }
+            Testing.due(wanted, () -> gotten);
         }
     }
 

@@ -1,17 +1,7 @@
-import java.util.function.Supplier;
-
 /** For each promise of the document the ordinary inputs, the edges it names, and wrong inputs. */
-public final class PromisesTest {
-    private static final String NO_ELEMENT = "throws.NoSuchElementException";
-    private static final String NO_STATE = "throws.IllegalStateException";
-    private static final String NO_ARGUMENT = "throws.IllegalArgumentException";
-    private static final String NO_INDEX = "throws.IndexOutOfBoundsException";
+public final class PromisesTest extends Testing {
     private static final int[] WRONG_RULES = {-1, 3, Integer.MIN_VALUE, Integer.MAX_VALUE};
     private static final int[] WRONG_NUMBERS = {-1, 40, 41, Integer.MIN_VALUE, Integer.MAX_VALUE};
-    private static final char[] WRONG_LETTERS = {'a' - 1, 'z' + 1, 'A', 'Z', '0', ' ', 0, 0xE9, 0xFFFF, 0x161};
-
-    private static int wrong = 0;
-    private static int promise = 0;
 
     public static void main(String[] args) {
         promise01NewObject();
@@ -44,13 +34,11 @@ public final class PromisesTest {
         promise27ReplacedLength();
         promise28Replaced();
         promise29Certain();
-        System.out.println(wrong == 0 ? "PromisesTest: all answers are as due"
-            : "PromisesTest: " + wrong + " answers are not as due");
-        System.exit(wrong == 0 ? 0 : 1);
+        finish("PromisesTest");
     }
 
     private static void promise01NewObject() {
-        promise = 1;
+        about("Promise 1");
         Ahoarch x = new Ahoarch();
         due(0, x::patterns);
         due(0, x::streamLength);
@@ -79,9 +67,9 @@ public final class PromisesTest {
     }
 
     private static void promise02Draft() {
-        promise = 2;
+        about("Promise 2");
         Ahoarch x = new Ahoarch();
-        for (char wrongLetter : WRONG_LETTERS) {
+        for (char wrongLetter : WRONG_LETTERS.toCharArray()) {
             due(NO_ARGUMENT, () -> x.draft(wrongLetter));
         }
         due(1, () -> x.draft('a'));
@@ -91,7 +79,7 @@ public final class PromisesTest {
         }
         due(NO_STATE, () -> x.draft('m'));
         // Both apply: the one documented first is thrown.
-        for (char wrongLetter : WRONG_LETTERS) {
+        for (char wrongLetter : WRONG_LETTERS.toCharArray()) {
             due(NO_ARGUMENT, () -> x.draft(wrongLetter));
         }
         due(0, x::enter);
@@ -108,7 +96,7 @@ public final class PromisesTest {
     }
 
     private static void promise03Enter() {
-        promise = 3;
+        about("Promise 3");
         Ahoarch x = new Ahoarch();
         due(NO_STATE, x::enter);
         draft(x, "ab");
@@ -154,7 +142,7 @@ public final class PromisesTest {
     }
 
     private static void promise04SetReplacement() {
-        promise = 4;
+        about("Promise 4");
         Ahoarch x = with("ab", "c");
         due(0, () -> x.setReplacement(0));
         draft(x, "xyzxyzxy");
@@ -181,7 +169,7 @@ public final class PromisesTest {
     }
 
     private static void promise05TakeOut() {
-        promise = 5;
+        about("Promise 5");
         Ahoarch x = with("a", "ab", "b");
         for (int number : WRONG_NUMBERS) {
             due(NO_ELEMENT, () -> x.takeOut(number));
@@ -200,7 +188,7 @@ public final class PromisesTest {
     }
 
     private static void promise06Patterns() {
-        promise = 6;
+        about("Promise 6");
         Ahoarch x = with("a", "b");
         due(2, x::patterns);
         draft(x, "c");
@@ -214,7 +202,7 @@ public final class PromisesTest {
     }
 
     private static void promise07Length() {
-        promise = 7;
+        about("Promise 7");
         Ahoarch x = with("a", "abcdefgh", "abc");
         due(1, () -> x.length(0));
         due(8, () -> x.length(1));
@@ -229,7 +217,7 @@ public final class PromisesTest {
     }
 
     private static void promise08Beginnings() {
-        promise = 8;
+        about("Promise 8");
         Ahoarch x = with("he", "she", "his", "hers");
         due(9, x::beginnings);
         x.takeOut(3);
@@ -246,7 +234,7 @@ public final class PromisesTest {
     }
 
     private static void promise09Link() {
-        promise = 9;
+        about("Promise 9");
         Ahoarch x = with("he", "she", "hers", "s", "aaaa");
         due(0, () -> x.link(0));
         due(2, () -> x.link(1));
@@ -267,7 +255,7 @@ public final class PromisesTest {
     }
 
     private static void promise10Overlap() {
-        promise = 10;
+        about("Promise 10");
         Ahoarch x = with("abab", "babb", "ab", "b", "aaaaaaaa", "abcdefgh", "bcdefghi");
         due(3, () -> x.overlap(0, 1));
         due(0, () -> x.overlap(1, 0));
@@ -292,9 +280,9 @@ public final class PromisesTest {
     }
 
     private static void promise11Feed() {
-        promise = 11;
+        about("Promise 11");
         Ahoarch x = with("a", "aa", "za");
-        for (char wrongLetter : WRONG_LETTERS) {
+        for (char wrongLetter : WRONG_LETTERS.toCharArray()) {
             due(NO_ARGUMENT, () -> x.feed(wrongLetter));
         }
         due(0, x::streamLength);
@@ -305,7 +293,7 @@ public final class PromisesTest {
         feed(x, "b".repeat(195));
         due(1, () -> x.feed('a'));
         due(NO_STATE, () -> x.feed('a'));
-        for (char wrongLetter : WRONG_LETTERS) {
+        for (char wrongLetter : WRONG_LETTERS.toCharArray()) {
             due(NO_ARGUMENT, () -> x.feed(wrongLetter));
         }
         due(200, x::streamLength);
@@ -315,7 +303,7 @@ public final class PromisesTest {
     }
 
     private static void promise12FeedPattern() {
-        promise = 12;
+        about("Promise 12");
         Ahoarch x = with("abcdefgh", "a", "h", "ha", "q");
         due(3, () -> x.feedPattern(0));
         due(4, () -> x.feedPattern(0));
@@ -349,7 +337,7 @@ public final class PromisesTest {
     }
 
     private static void promise13Clear() {
-        promise = 13;
+        about("Promise 13");
         Ahoarch x = with("ab");
         due(0, x::clear);
         feed(x, "abab");
@@ -370,7 +358,7 @@ public final class PromisesTest {
     }
 
     private static void promise14StreamLength() {
-        promise = 14;
+        about("Promise 14");
         Ahoarch x = with("abc");
         due(0, x::streamLength);
         feed(x, "zz");
@@ -384,7 +372,7 @@ public final class PromisesTest {
     }
 
     private static void promise15Depth() {
-        promise = 15;
+        about("Promise 15");
         Ahoarch x = with("he", "she", "hers");
         due(0, x::depth);
         feed(x, "u");
@@ -415,7 +403,7 @@ public final class PromisesTest {
     }
 
     private static void promise16Ending() {
-        promise = 16;
+        about("Promise 16");
         Ahoarch x = with("he", "she", "e", "hers");
         due(0, x::ending);
         feed(x, "sh");
@@ -435,7 +423,7 @@ public final class PromisesTest {
     }
 
     private static void promise17EndingPattern() {
-        promise = 17;
+        about("Promise 17");
         Ahoarch x = with("he", "she", "e", "hers");
         due(NO_INDEX, () -> x.endingPattern(0));
         feed(x, "she");
@@ -462,7 +450,7 @@ public final class PromisesTest {
     }
 
     private static void promise18Occurrences() {
-        promise = 18;
+        about("Promise 18");
         Ahoarch x = with("aa", "a");
         due(0, x::occurrences);
         feed(x, "aaaba");
@@ -481,7 +469,7 @@ public final class PromisesTest {
     }
 
     private static void promise19OccurrencesOf() {
-        promise = 19;
+        about("Promise 19");
         Ahoarch x = with("aa", "a", "b");
         feed(x, "aaaba");
         due(2, () -> x.occurrencesOf(0));
@@ -500,7 +488,7 @@ public final class PromisesTest {
     }
 
     private static void promise20Occurrence() {
-        promise = 20;
+        about("Promise 20");
         Ahoarch x = with("aa", "a", "q");
         feed(x, "aaaba");
         due(0, () -> x.occurrence(0, 0));
@@ -528,7 +516,7 @@ public final class PromisesTest {
     }
 
     private static void promise21Told() {
-        promise = 21;
+        about("Promise 21");
         Ahoarch x = with("a", "aa");
         due(0, x::told);
         feed(x, "aa");
@@ -551,7 +539,7 @@ public final class PromisesTest {
     }
 
     private static void promise22Covered() {
-        promise = 22;
+        about("Promise 22");
         Ahoarch x = with("ab", "c", "bxcxd");
         due(0, x::covered);
         feed(x, "zabxc");
@@ -577,7 +565,7 @@ public final class PromisesTest {
     }
 
     private static void promise23MostApart() {
-        promise = 23;
+        about("Promise 23");
         Ahoarch x = with("abcd", "bc", "de", "ef");
         due(0, x::mostApart);
         feed(x, "abcdef");
@@ -606,7 +594,7 @@ public final class PromisesTest {
     }
 
     private static void promise24Chosen() {
-        promise = 24;
+        about("Promise 24");
         Ahoarch x = threeRules();
         due(2, () -> x.chosen(0));
         due(3, () -> x.chosen(1));
@@ -630,7 +618,7 @@ public final class PromisesTest {
     }
 
     private static void promise25ChosenPattern() {
-        promise = 25;
+        about("Promise 25");
         Ahoarch x = threeRules();
         due("1 1", () -> chosenPatterns(x, 0));
         due("0 3 0", () -> chosenPatterns(x, 1));
@@ -664,7 +652,7 @@ public final class PromisesTest {
     }
 
     private static void promise26ChosenPlace() {
-        promise = 26;
+        about("Promise 26");
         Ahoarch x = threeRules();
         due("1 5", () -> chosenPlaces(x, 0));
         due("1 3 5", () -> chosenPlaces(x, 1));
@@ -701,7 +689,7 @@ public final class PromisesTest {
     }
 
     private static void promise27ReplacedLength() {
-        promise = 27;
+        about("Promise 27");
         Ahoarch x = replacing();
         due("zlmdlmz".length(), () -> x.replacedLength(0));
         due("zknnnnnnnnkcz".length(), () -> x.replacedLength(1));
@@ -722,7 +710,7 @@ public final class PromisesTest {
     }
 
     private static void promise28Replaced() {
-        promise = 28;
+        about("Promise 28");
         Ahoarch x = replacing();
         due("zlmdlmz", () -> replaced(x, 0));
         due("zknnnnnnnnkcz", () -> replaced(x, 1));
@@ -752,7 +740,7 @@ public final class PromisesTest {
     }
 
     private static void promise29Certain() {
-        promise = 29;
+        about("Promise 29");
         Ahoarch x = with("ab", "abcd", "q");
         replaceBy(x, 0, "xyz");
         feed(x, "z");
@@ -804,49 +792,6 @@ public final class PromisesTest {
 
     // ---- helpers
 
-    private static String pair(int number) {
-        return "" + (char) ('a' + number / 26) + (char) ('a' + number % 26);
-    }
-
-    private static Ahoarch with(String... patterns) {
-        Ahoarch x = new Ahoarch();
-        for (String pattern : patterns) {
-            enter(x, pattern);
-        }
-        return x;
-    }
-
-    private static void enter(Ahoarch x, String pattern) {
-        draft(x, pattern);
-        x.enter();
-    }
-
-    private static void replaceBy(Ahoarch x, int pattern, String letters) {
-        draft(x, letters);
-        x.setReplacement(pattern);
-    }
-
-    private static void draft(Ahoarch x, String letters) {
-        for (char letter : letters.toCharArray()) {
-            x.draft(letter);
-        }
-    }
-
-    private static void feed(Ahoarch x, String letters) {
-        for (char letter : letters.toCharArray()) {
-            x.feed(letter);
-        }
-    }
-
-    private static String replaced(Ahoarch x, int rule) {
-        StringBuilder letters = new StringBuilder();
-        int size = x.replacedLength(rule);
-        for (int index = 0; index < size; index++) {
-            letters.append(x.replaced(rule, index));
-        }
-        return letters.toString();
-    }
-
     private static String chosenPatterns(Ahoarch x, int rule) {
         StringBuilder numbers = new StringBuilder();
         int count = x.chosen(rule);
@@ -863,24 +808,5 @@ public final class PromisesTest {
             places.append(index == 0 ? "" : " ").append(x.chosenPlace(rule, index));
         }
         return places.toString();
-    }
-
-    private static void due(int want, Supplier<?> call) {
-        due(Integer.toString(want), call);
-    }
-
-    private static void due(String want, Supplier<?> call) {
-        String got;
-        try {
-            got = String.valueOf(call.get());
-        } catch (RuntimeException thrown) {
-            got = "throws." + thrown.getClass().getSimpleName();
-        }
-        if (!got.equals(want)) {
-            wrong++;
-            StackTraceElement[] stack = new Throwable().getStackTrace();
-            StackTraceElement from = stack[1].getMethodName().equals("due") ? stack[2] : stack[1];
-            System.out.println("promise " + promise + ", " + from + ": answered " + got + ", due is " + want);
-        }
     }
 }
